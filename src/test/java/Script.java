@@ -64,7 +64,7 @@ final class Script {
         String want = equals < 0 ? null : step.substring(equals + 4).trim();
         String label = name + ": " + call;
         if (call.startsWith("type(")) {
-            for (char c : unquoted(call.substring(5, call.length() - 1)).toCharArray()) bindery.append(c);
+            for (char c : call.substring(6, call.length() - 2).toCharArray()) bindery.append(c);
         } else if (call.equals("shown()")) {
             due(label, "\"" + State.line(bindery) + "\"", want);
         } else {
@@ -120,12 +120,7 @@ final class Script {
     private static Object parameter(String word, Class<?> type) {
         if (type == int.class) return Integer.valueOf(word);
         if (type == boolean.class) return Boolean.valueOf(word);
-        String character = unquoted(word);
-        return character.length() == 1 ? character.charAt(0) : (char) Integer.parseInt(word);
-    }
-
-    private static String unquoted(String word) {
-        return word.length() >= 2 ? word.substring(1, word.length() - 1) : word;
+        return word.startsWith("'") ? word.charAt(1) : (char) Integer.parseInt(word);
     }
 
     private static List<String> split(String text, char between) {

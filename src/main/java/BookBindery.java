@@ -688,16 +688,10 @@ public final class BookBindery {
         final boolean[] turned = new boolean[MOST_SIGNATURES];
         private final long[] slipRows = new long[SLIP_ROWS];
 
+        // The rest is as in a new book: what is taken back leaves nothing behind in the books that are not planned.
         void begin(int plannedPages, int plannedStations) {
             pages = plannedPages;
             stations = plannedStations;
-            stage = GATHERED;
-            signatures = 0;
-            sewn = 0;
-            slips = 0;
-            glue = NONE;
-            minutesLeft = 0;
-            for (int row = 0; row < SLIP_ROWS; row++) slipRows[row] = 0;
         }
 
         void copyFrom(Book other) {
@@ -1000,7 +994,6 @@ public final class BookBindery {
         // Where it fails, the reader stands on the character that cannot continue the text, or behind the last one.
         private boolean readCommand() {
             numberCount = 0;
-            isTurned = false;
             letter = at < length ? characters[at] : ' ';
             String form = formOf(letter);
             if (form.isEmpty()) return false;

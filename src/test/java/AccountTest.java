@@ -16,6 +16,10 @@ public final class AccountTest {
                 "sew(0); unpick(0); sew(0); glue(0, 0); account(11) = 7; press(0, 0); account(11) = 8; pass(30); account(11) = 8",
                 "lift(1) = refused 11 1; account(11) = 8; lift(0) = 0; save() = 1; line(0); account(11) = 8; undo() = 7; account(11) = 7",
                 "deliver(0) = refused 4 2; account(11) = 7; restore() = 1; account(11) = 0");
+        Script.run("promise 39, of all six books",
+                Script.times(6, "book(4, 2)"), "gather(5, 1, 1, false); gather(0, 1, 1, false); account(6) = 2; account(3) = 6",
+                "meanSignatures() = 0.3333333333333333; sew(5); glue(5, 1); press(5, 0); pass(8); account(4) = 1; lift(0) = 5",
+                "deliver(5) = 0; account(5) = 1; account(4) = 0");
         Script.run("promise 39, numbers that are no accounts",
                 "account(13) = throws IllegalArgumentException; account(-1) = throws IllegalArgumentException",
                 "account(2147483647) = throws IllegalArgumentException; account(-2147483648) = throws IllegalArgumentException");

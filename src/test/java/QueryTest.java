@@ -66,7 +66,9 @@ public final class QueryTest {
                     "gather(0, 2, 1, true) = 0; " + call + "(0) = 3; gather(0, 4, 1, true) = 1; " + call + "(0) = 7",
                     "drop(0, 0) = 1; " + call + "(0) = 3; book(16, 2) = 1; gather(1, 5, 1, false) = 0",
                     "gather(1, 2, 1, true) = 1; " + call + "(1) = 7; gather(1, 4, 2, true) = 2; " + call + "(1) = 14",
-                    "gather(1, 90, 3, true) = 3; " + call + "(1) = 30");
+                    "gather(1, 90, 3, true) = 3; " + call + "(1) = 30; book(16, 2) = 2; gather(2, 6, 1, true) = 0",
+                    call + "(2) = 4; gather(2, 8, 1, true) = 1; " + call + "(2) = 7; drop(2, 0); gather(2, 2, 1, true) = 1",
+                    call + "(2) = 7");
             Script.run("promises 18 and 19, a right page that is planned no more is wrong: " + call,
                     "book(8, 2) = 0; gather(0, 1, 1, false) = 0; gather(0, 6, 2, true) = 1; " + call + "(0) = 8",
                     "book(9, 2) = 1; gather(1, 1, 1, false) = 0; gather(1, 6, 2, true) = 1; " + call + "(1) = 7",
@@ -76,7 +78,8 @@ public final class QueryTest {
 
     private static void firstWrong() {
         Script.run("promise 20, the first one", MIXED, "firstWrong(0) = 8; move(0, 1, 0) = 20; firstWrong(0) = 0",
-                "book(6, 2) = 1; gather(1, 1, 2, false) = 0; firstWrong(1) = 6");
+                "book(6, 2) = 1; gather(1, 1, 2, false) = 0; firstWrong(1) = 6; sew(1); glue(1, 1); press(1, 0); pass(8)",
+                "lift(0) = 1; slip(1, 6) = 1; firstWrong(1) = 6; slip(1, 7) = 2; firstWrong(1) = 6; wrong(1) = 2");
         Script.run("promise 20, none, and no such book",
                 "firstWrong(0) = throws IndexOutOfBoundsException; book(8, 2) = 0; firstWrong(0) = throws NoSuchElementException",
                 "gather(0, 1, 2, false) = 0; firstWrong(0) = throws NoSuchElementException",
@@ -122,6 +125,9 @@ public final class QueryTest {
                 "gather(5, 2, 1, false) = 0; gather(3, 5, 2, false) = 0; gather(0, 1, 1, false) = 0",
                 "ranked(0) = 3; ranked(1) = 5; ranked(2) = 4; ranked(3) = 1; ranked(4) = 2; ranked(5) = 0",
                 "ranked(6) = throws NoSuchElementException; ranked(-1) = throws NoSuchElementException");
+        Script.run("promise 30, one wrong position comes ahead of 96 missing pages",
+                "book(96, 2) = 0; book(7, 2) = 1; gather(1, 1, 2, false) = 0; wrong(1) = 1; missing(0) = 96; ranked(0) = 1",
+                "ranked(1) = 0");
         Script.run("promise 30, books that are alike",
                 "ranked(0) = throws NoSuchElementException", Script.times(3, "book(4, 2)"),
                 "ranked(0) = 0; ranked(1) = 1; ranked(2) = 2; ranked(3) = throws NoSuchElementException",

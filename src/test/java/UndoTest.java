@@ -24,6 +24,11 @@ public final class UndoTest {
                 "undo() = 7; account(1) = 20; bookOf(0, 2) = 3; undo() = 6; hasSlip(0, 3) = false; account(9) = 3; undo() = 5; undo() = 4",
                 "undo() = 3; hasSlip(0, 0) = false; undo() = 2; bookOf(0, 2) = 2; inPress(1, 0) = 0; undo() = 1; account(0) = 0",
                 "readyIn(1) = 8; undo() = 0; bookOf(0, 2) = 1; inPress(1, 0) = throws NoSuchElementException; pass(8) = 1");
+        Script.run("promise 40, a book that was lifted lies in its press again, under no other one",
+                "book(4, 2) = 0; book(4, 2) = 1; gather(0, 1, 1, false); gather(1, 1, 1, false); sew(0); sew(1); glue(1, 0); glue(0, 1)",
+                "press(0, 0) = 1; pass(8) = 0; lift(0) = 0; press(1, 0) = 1; inPress(0, 0) = 1; undo() = 7; undo() = 6",
+                "inPress(0, 0) = 0; bookOf(1, 2) = 1; save() = 2; lift(0) = 0; press(1, 0) = 1; restore() = 2; inPress(0, 0) = 0",
+                "press(1, 0) = 2; undo() = 0; inPress(0, 1) = throws NoSuchElementException; lift(0) = 0");
         Script.run("promise 40, books that came loose, and a text as one change",
                 "book(4, 2) = 0; gather(0, 1, 1, false) = 0; sew(0); glue(0, 1); pass(3) = 0; pass(9) = 1; undo() = 5",
                 "bookOf(0, 2) = 1; bookOf(0, 8) = 5; bookOf(0, 4) = 1; account(8) = 0; type(\"p00;w5;t0;d0\"); commands() = 4",
@@ -57,6 +62,10 @@ public final class UndoTest {
                 "undo() = throws IllegalStateException; bookOf(0, 2) = 2; readyIn(1) = 12; account(0) = 3; account(2) = 89",
                 "account(9) = 0; account(3) = 1; hasSlip(0, 0) = false; signatureOf(0, 0, 3) = 1; pass(12) = 0; undo() = 0",
                 "pass(12) = 0; lift(1) = 0; book(4, 2) = 1; restore() = 1; bookOf(0, 8) = 12; bookOf(0, 2) = 2");
+        Script.run("promises 41 and 42, another book at the number of one that was saved",
+                "book(8, 3) = 0; gather(0, 9, 2, true) = 0; save() = 1; undo() = 1; undo() = 0; book(5, 2) = 0; gather(0, 1, 1, false) = 0",
+                "restore() = 1; bookOf(0, 0) = 8; bookOf(0, 1) = 3; bookOf(0, 3) = 1; line(0) = 8; shown() = \"0: 9-16!\"",
+                "signatureOf(0, 0, 2) = 2");
         Script.run("promises 41 and 42, in place of an earlier snapshot, and not undone",
                 "save() = 0; book(4, 2) = 0; save() = 1; undo() = 0; account(3) = 0; restore() = 1; account(3) = 1; book(5, 2) = 1",
                 "save() = 2; undo() = 0; account(3) = 1; restore() = 2; bookOf(1, 0) = 5; restore() = 2");

@@ -39,6 +39,21 @@ final class Script {
         }
     }
 
+    /** Carries calls out on an object of the caller's, whatever they answer. */
+    static void carryOut(BookBindery bindery, String steps) {
+        for (String step : split(steps, ';')) {
+            if (step.isEmpty()) continue;
+            int equals = step.indexOf(") = ");
+            String call = equals < 0 ? step : step.substring(0, equals + 1);
+            if (call.startsWith("type(")) append(bindery, call);
+            else answer(bindery, call);
+        }
+    }
+
+    private static void append(BookBindery bindery, String call) {
+        for (char c : call.substring(6, call.length() - 2).toCharArray()) bindery.append(c);
+    }
+
     static String times(int times, String steps) {
         return (steps + "; ").repeat(times);
     }
@@ -64,7 +79,7 @@ final class Script {
         String want = equals < 0 ? null : step.substring(equals + 4).trim();
         String label = name + ": " + call;
         if (call.startsWith("type(")) {
-            for (char c : call.substring(6, call.length() - 2).toCharArray()) bindery.append(c);
+            append(bindery, call);
         } else if (call.equals("shown()")) {
             due(label, "\"" + State.line(bindery) + "\"", want);
         } else {

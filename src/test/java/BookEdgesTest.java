@@ -100,6 +100,10 @@ public final class BookEdgesTest {
         Script.run("promise 4, it keeps its fold and whether it is turned",
                 "book(4, 2) = 0; gather(0, 9, 3, true) = 0; gather(0, 1, 1, false) = 1; move(0, 0, 1) = 16",
                 "signatureOf(0, 1, 2) = 3; signatureOf(0, 1, 3) = 1; signatureOf(0, 0, 2) = 1; signatureOf(0, 0, 3) = 0");
+        Script.run("promise 4, the others keep their folds and their sides too, forwards and backwards",
+                "book(4, 2) = 0; gather(0, 1, 1, true); gather(0, 9, 2, false); gather(0, 17, 3, true); gather(0, 40, 1, false)",
+                "move(0, 0, 3) = 32; line(0) = 25; shown() = \"0: 9-16 17-32! 40-43 1-4!\"",
+                "move(0, 3, 0) = 32; line(0) = 25; shown() = \"0: 1-4! 9-16 17-32! 40-43\"");
         Script.run("promise 4, no place: a book without signatures", "book(4, 2) = 0; move(0, 0, 0) = refused 3 0");
         Script.run("promise 4, no place: the one behind the last one", Steps.TWELVE, "move(0, 12, 0) = refused 3 12; move(0, 0, 12) = refused 3 12");
         Script.run("promise 4, no place: a negative one", Steps.TWELVE, "move(0, -1, 0) = refused 3 -1; move(0, 0, -1) = refused 3 -1");
@@ -151,6 +155,8 @@ public final class BookEdgesTest {
         Script.run("promise 20, there is none: no positions", "book(4, 2) = 0; firstWrong(0) = throws NoSuchElementException");
         Script.run("promise 20, there is none: all are right", Steps.TWELVE, "firstWrong(0) = throws NoSuchElementException");
         Script.run("promise 20, the first one is the last position", "book(15, 2) = 0; gather(0, 1, 3, false) = 0; firstWrong(0) = 15");
+        Script.run("promise 20, a wrong position with a slip is wrong still", "book(4, 2) = 0; gather(0, 5, 1, false) = 0", Steps.TO_BIND,
+                "slip(0, 0) = 1; firstWrong(0) = 0; wrong(0) = 4; wrongAgain(0) = 4; slip(0, 0) = refused 13 0");
         Script.run("promise 20, the first one is the position 0", "book(4, 2) = 0; gather(0, 1, 1, true) = 0; firstWrong(0) = 0");
     }
 

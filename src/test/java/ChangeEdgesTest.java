@@ -119,6 +119,10 @@ public final class ChangeEdgesTest {
         Script.run("promise 42, the snapshot is kept: again and again", "save() = 0; spool(1) = 101; restore() = 0; account(2) = 100; spool(2) = 102; restore() = 0; account(2) = 100; restore() = 0; account(2) = 100");
         Script.run("promise 42, the snapshot is kept: what is changed after it is not in it", Steps.FOUR_GLUED, "press(0, 0); save() = 4; press(1, 0); pass(30); restore() = 4; press(2, 0) = 2; drop(3, 0) = refused 4 1; restore() = 4",
                 "inPress(0, 0) = 0; inPress(0, 1) = throws NoSuchElementException; bookOf(2, 2) = 1; bookOf(2, 8) = 15");
+        Script.run("promise 42, books and stacks that were written over since", "book(7, 3) = 0; book(8, 2) = 1; gather(0, 1, 1, false); gather(1, 1, 1, false); sew(0); sew(1); glue(0, 0); glue(1, 1); press(0, 1); press(1, 1)",
+                "save() = 2; pass(8); lift(1) = 1; undo(); undo(); undo(); undo(); undo(); undo(); undo(); undo(); undo() = throws IllegalStateException; account(4) = 0; restore() = 2",
+                "bookOf(0, 0) = 7; bookOf(0, 1) = 3; inPress(1, 0) = 0; inPress(1, 1) = 1; readyIn(1) = 30; account(11) = 0");
+        Script.run("promise 40, a stack that was written over since", Steps.FOUR_GLUED, "press(0, 0); press(1, 0); pass(8); lift(0) = 1; press(2, 0) = 2; undo() = 7; undo() = 6; inPress(0, 1) = 1; inPress(0, 0) = 0");
         Script.run("changes, restore forgets what was kept: 8 calls", Script.times(9, "spool(1)"), "save() = 0; account(11) = 8; restore() = 0; account(11) = 0; " + NO_MORE + "spool(1) = 110; account(11) = 1; undo() = 0; account(2) = 109; " + NO_MORE);
         Script.run("changes, save forgets nothing", Script.times(8, "spool(1)"), "save() = 0; account(11) = 8; undo() = 7; account(2) = 107");
         Script.run("promise 41, the changes are not saved", "spool(1) = 101; save() = 0; spool(1) = 102; restore() = 0; " + NO_MORE + "account(2) = 101");

@@ -70,7 +70,7 @@ public final class GatheringTest {
                 "move(0, 0, 1) = 8; line(0) = 16; shown() = \"0: 5-8! 1-4 9-16\"",
                 "move(0, 1, 2) = 16; line(0) = 16; shown() = \"0: 5-8! 9-16 1-4\"",
                 "move(0, 1, 1) = 16; account(11) = 8; undo() = 7; line(0) = 16; shown() = \"0: 5-8! 9-16 1-4\"");
-        Script.run("promise 4, among 12", "book(96, 2) = 0", twelve(),
+        Script.run("promise 4, among 12", Steps.TWELVE,
                 "move(0, 0, 11) = 48; signatureOf(0, 11, 0) = 1; signatureOf(0, 0, 0) = 5; signatureOf(0, 10, 0) = 45",
                 "move(0, 11, 0) = 0; move(0, 11, 11) = 0; move(0, 10, 11) = 8; move(0, 12, 0) = refused 3 12",
                 "move(0, 0, 12) = refused 3 12");
@@ -83,14 +83,6 @@ public final class GatheringTest {
                 "move(0, 9, 9) = refused 4 1");
     }
 
-    private static String twelve() {
-        StringBuilder twelve = new StringBuilder();
-        for (int place = 0; place < 12; place++) {
-            twelve.append("gather(0, ").append(4 * place + 1).append(", 1, false) = ").append(place).append("; ");
-        }
-        return twelve.toString();
-    }
-
     private static void drop() {
         String three = "book(16, 2) = 0; gather(0, 1, 1, false) = 0; gather(0, 5, 1, true) = 1; gather(0, 9, 2, false) = 2";
         Script.run("promise 5, the later ones come nearer", three,
@@ -98,7 +90,7 @@ public final class GatheringTest {
                 "drop(0, 0) = 1; line(0) = 7; shown() = \"0: 9-16\"; drop(0, 0) = 0; drop(0, 0) = refused 3 0",
                 "account(6) = 0; gather(0, 3, 1, false) = 0");
         Script.run("promise 5, the last one", three, "drop(0, 2) = 2; line(0) = 11; shown() = \"0: 1-4 5-8!\"");
-        Script.run("promise 5, among 12", "book(96, 2) = 0", twelve(),
+        Script.run("promise 5, among 12", Steps.TWELVE,
                 "drop(0, 0) = 11; signatureOf(0, 10, 0) = 45; signatureOf(0, 0, 0) = 5; gather(0, 50, 1, false) = 11",
                 "drop(0, 11) = 11; drop(0, 11) = refused 3 11");
         Script.run("promise 5, refused", three,

@@ -19,12 +19,17 @@ final class State {
         line = line(bindery);
     }
 
-    /** What differs, or null. A text empties the buffer and sets the fault position also if it is refused. */
-    String differsFrom(State other, boolean isText, boolean isRefused) {
-        if (!undoable.equals(other.undoable)) return "\n" + other.undoable + "\nto\n" + undoable;
-        if (!history.equals(other.history)) return history;
-        if (!line.equals(other.line)) return "line " + line;
-        if (!isText && !text.equals(other.text)) return text;
+    /** What differs and must not, or null. A text empties the buffer and sets the fault position also if it is refused. */
+    String differsFrom(State other, String method, String got, boolean isChange) {
+        boolean isThrown = got.startsWith("throws ");
+        boolean isRefused = got.equals("throws UnsupportedOperationException");
+        boolean isText = method.equals("commands");
+        boolean isAppended = method.equals("append") && !isThrown;
+        boolean isWritten = method.equals("line") && !isThrown;
+        if (!isChange && !undoable.equals(other.undoable)) return "\n" + other.undoable + "\nto\n" + undoable;
+        if (!isChange && !history.equals(other.history)) return history;
+        if (!isWritten && !line.equals(other.line)) return "line " + line;
+        if (!isText && !isAppended && !text.equals(other.text)) return text;
         if (!isText && !fault.equals(other.fault)) return fault;
         if (isText && !text.equals("characters 0")) return text;
         if (!isRefused && !reason.equals(other.reason)) return "reason " + reason;

@@ -105,6 +105,7 @@ public final class TextEdgesTest {
                 "type(\"g0@1:4\"); commands() = refused 1 0; bookOf(0, 5) = 20; faultPosition() = -1");
         Script.run("texts, turned with a sign, unturned without one, behind each other", "book(4, 2) = 0; type(\"g0@1:1!;g0@1:1;g0@1:1!\"); commands() = 3",
                 "signatureOf(0, 0, 3) = 1; signatureOf(0, 1, 3) = 0; signatureOf(0, 2, 3) = 1");
+        Script.run("texts, u takes the latest sewing back, and goes no minutes by", Steps.SEWN, "type(\"u0\"); commands() = 1; bookOf(0, 4) = 0; account(8) = 1; account(0) = 0; type(\"u0\"); commands() = refused 6 1");
         Script.run("texts, a book: 5, 6 and 9", Script.times(6, "book(4, 2)"), "type(\"g5@1:1;s5;u5\"); commands() = 3; type(\"s6\"); commands() = refused 3 6; type(\"d9\"); commands() = refused 3 9; faultPosition() = -1");
         Script.run("texts, a glue: 2 and 3", Steps.SEWN, "type(\"l03\"); commands() = refused 3 3; type(\"l02\"); commands() = 1; bookOf(0, 7) = 2");
         Script.run("texts, a press: 1 and 2", Steps.SEWN, "glue(0, 1); type(\"p02\"); commands() = refused 3 2; type(\"p01\"); commands() = 1; inPress(1, 0) = 0; type(\"t2\"); commands() = refused 3 2; type(\"w8;t1\"); commands() = 2");

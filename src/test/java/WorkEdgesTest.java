@@ -159,7 +159,16 @@ public final class WorkEdgesTest {
         Script.run("promise 14, one after the other: books come loose at different ones", Steps.FOUR_GLUED, "pass(7) = 0; pass(1) = 1; pass(6) = 0; pass(1) = 2; pass(14) = 0; pass(1) = 1; pass(60) = 0");
         Script.run("promise 14, how many books are gathered again in all the minutes", Steps.FOUR_GLUED, "pass(30) = 4; account(8) = 4");
         Script.run("promise 14, those in a press are not gathered again", Steps.FOUR_GLUED, "press(0, 0); press(1, 1); pass(60) = 2; bookOf(0, 2) = 2; bookOf(1, 2) = 2; bookOf(2, 2) = 0");
+        Script.run("promise 14, all six books", "spool(200); " + Script.times(6, "book(4, 2)"), sixGlued(), "pass(7) = 0; pass(1) = 6; account(8) = 6; bookOf(0, 2) = 0; bookOf(5, 2) = 0");
         Script.run("promise 14, no books", "pass(60) = 0; pass(60) = 0; account(0) = 120");
+    }
+
+    private static String sixGlued() {
+        StringBuilder glued = new StringBuilder();
+        for (int book = 0; book < 6; book++) {
+            glued.append(String.format("gather(%d, 1, 1, false) = 0; sew(%d); glue(%d, 1) = 8; ", book, book, book));
+        }
+        return glued.toString();
     }
 
     private static void slip() {
